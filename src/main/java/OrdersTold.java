@@ -14,6 +14,9 @@ public final class OrdersTold {
     // Stores told as bits; those of d, s, t are 1, 2, 4.
     private static final int BIT_Z = 8, BIT_P = 16, BIT_MEMORY = 32;
 
+    // Fields told as bits, as the maker's forms have them.
+    private static final int JUST_DS = 3, JUST_DST = 7, JUST_DI = 9, JUST_DSI = 11;
+
     private static final int NO_FORM = 0, LOAD = 1, MOVE = 2, THREE = 3, WITH = 4, ONTO = 5, UPON = 6;
 
     private final Tape tape;
@@ -503,10 +506,10 @@ public final class OrdersTold {
         void addGuard(int kind, int on) {
             guard = kind;
             guardOn = on;
-            named |= on == Z ? BIT_Z : 1 << on;
+            named |= namedBy(on);
         }
 
-        /** Room for the act was looked at by those who read or join. A sign of 0 is none. */
+        /** A sign of 0 is none. */
         void addAct(int target, int left, int sign, int right) {
             if (acts >= MOST_ACTS) {
                 return;
@@ -566,8 +569,11 @@ public final class OrdersTold {
 
         int fieldOf(int bits, int f) {
             int mask = fieldMasks[f];
+            if (mask == 0) {
+                return 0;
+            }
             int number = 0;
-            for (int bit = Integer.highestOneBit(mask); bit > 0; bit >>= 1) {
+            for (int bit = Telling.MOST_BITS >> 1; bit > 0; bit >>= 1) {
                 if ((mask & bit) != 0) {
                     number = number * 2 + ((bits & bit) == 0 ? 0 : 1);
                 }
@@ -612,23 +618,23 @@ public final class OrdersTold {
         }
 
         private int plainForm(int letters) {
-            if (lefts[0] == I && letters == 9) {
+            if (lefts[0] == I && letters == JUST_DI) {
                 return LOAD;
             }
-            return lefts[0] == S && letters == 3 ? MOVE : NO_FORM;
+            return lefts[0] == S && letters == JUST_DS ? MOVE : NO_FORM;
         }
 
         private int signForm(int letters) {
-            if (lefts[0] == S && rights[0] == T && letters == 7) {
+            if (lefts[0] == S && rights[0] == T && letters == JUST_DST) {
                 return THREE;
             }
-            if (lefts[0] == S && rights[0] == I && letters == 11) {
+            if (lefts[0] == S && rights[0] == I && letters == JUST_DSI) {
                 return WITH;
             }
-            if (lefts[0] == D && rights[0] == S && letters == 3) {
+            if (lefts[0] == D && rights[0] == S && letters == JUST_DS) {
                 return ONTO;
             }
-            return lefts[0] == D && rights[0] == I && letters == 9 ? UPON : NO_FORM;
+            return lefts[0] == D && rights[0] == I && letters == JUST_DI ? UPON : NO_FORM;
         }
 
         void doOn(Machine machine) {
@@ -713,10 +719,6 @@ public final class OrdersTold {
             return number >= 0 && number < told ? orders[number] : null;
         }
 
-        boolean isName(int name) {
-            return nameNumber(name) >= 0;
-        }
-
         int nameNumber(int name) {
             for (int i = 0; i < told; i++) {
                 if (orders[i].name == name) {
@@ -732,7 +734,7 @@ public final class OrdersTold {
                 latestShared = bits * 32 + byBits[bits];
                 return NOT;
             }
-            return told < MOST_ORDERS ? keepSpare() : FULL;
+            return keepSpare();
         }
 
         private int leastSharedBits() {
@@ -747,7 +749,10 @@ public final class OrdersTold {
             return least;
         }
 
-        int keepSpare() {
+        private int keepSpare() {
+            if (told >= MOST_ORDERS) {
+                return FULL;
+            }
             Order kept = spare;
             spare = orders[told];
             orders[told] = kept;
@@ -884,9 +889,6 @@ public final class OrdersTold {
             if (room < 0) {
                 return NOT;
             }
-            if (told >= MOST_ORDERS) {
-                return FULL;
-            }
             int free = freeBits(a, b);
             spare.fixedMask = bitsInAll() - (1 << free);
             spare.fixedBits = room;
@@ -936,7 +938,7 @@ public final class OrdersTold {
             if (order.name == 0) {
                 return false;
             }
-            if (telling.isName(order.name)) {
+            if (telling.nameNumber(order.name) >= 0) {
                 tape.blameWord();
                 return false;
             }
@@ -1196,7 +1198,7 @@ public final class OrdersTold {
         }
 
         private int aheadIn(int slot) {
-            if (ahead[slot] == OPEN) {
+            if (ahead[slot] == OPEN && askedCount < SLOTS) {
                 ahead[slot] = 0;
                 asked[askedCount++] = slot;
             }
