@@ -73,7 +73,10 @@ public final class MakerTest {
         c.due("26: just the name", x.text(0, 0), 'h');
         Checks.order(x, "abc:0001iiiiiiii:z=i:1");
         c.due("26: three digits", x.text(0x1FF, -1), 7);
-        c.due("26: the last", x.text(0x1C8, 6), '0');
+        c.due("26: 200", Checks.text(x, 0x1C8).equals("abc 200") ? 1 : 0, 1);
+        c.due("26: 109", Checks.text(x, 0x16D).equals("abc 109") ? 1 : 0, 1);
+        c.due("26: 100", Checks.text(x, 0x164).equals("abc 100") ? 1 : 0, 1);
+        c.due("26: 10", Checks.text(x, 0x10A).equals("abc 10") ? 1 : 0, 1);
         c.due("26: a 0 alone", x.text(0x100, -1), 5);
     }
 
@@ -101,6 +104,8 @@ public final class MakerTest {
         c.due("27: refused, the sum stays", x.value(), 0);
         c.due("27: what it was", x.variables(4), 4);
         c.due("27: no sum is read then", x.value(), NOT);
+        c.due("27: the least", x.variables(1), 4);
+        c.due("12: and it is so", x.count(3), 1);
         x.begin(8, 3, 8);
         c.due("27: eight", x.variables(8), 1);
         c.due("28: h", Checks.sum(x, "h"), 1);
@@ -117,6 +122,8 @@ public final class MakerTest {
         c.due("28: 20", Checks.sum(x, "1+1+1+1+1+1+1+1+1+1+1+1+1+1+1+1+1+1+1+1"), 20);
         c.due("31: and all count", x.value(), 20);
         c.due("28: 0s ahead", Checks.sum(x, "0000255"), 1);
+        c.due("28: 0", Checks.sum(x, "0-0"), 2);
+        c.due("31: 0", x.value(), 0);
     }
 
     private static void sumFaults(Checks c) {
@@ -249,10 +256,12 @@ public final class MakerTest {
     }
 
     private static void notForms(Checks c) {
-        String[] does = {"d=t", "s=d", "?z,d=s", "d=s,z=0", "[d]=s", "z=s", "d=s+s", "d=t+s", "d=i+s", "d=s+d", "d=i+d", "d=s+1", "d=t+i"};
+        String[] does = {"d=t", "s=d", "?z,d=s", "d=s,z=0", "[d]=s", "z=s", "d=s+s", "d=t+s", "d=i+s", "d=s+d", "d=i+d", "d=s+1", "d=t+i", "d=d+1",
+            "d=d+d", "d=d", "d=d+z", "d=d+[i]", "d=[s]+i"};
         for (String one : does) {
             OrdersTold x = with("d=i:1", one + ":1");
             c.due("29: no move by " + one, priceOf(x, "a"), NONE);
+            x = with("d=i:1", "d=s:1", one + ":1");
             c.due("29: no sum by " + one, priceOf(x, "a+b"), NONE);
             c.due("29: nor with a number", priceOf(x, "a+1"), NONE);
         }

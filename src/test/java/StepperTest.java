@@ -13,6 +13,7 @@ public final class StepperTest {
         jumps(c);
         runAndStop(c);
         waits(c);
+        iNamesNoRegister(c);
         waitsAreForgotten(c);
         guesses(c);
         goBack(c);
@@ -116,6 +117,8 @@ public final class StepperTest {
         x.set(0, 2, 3);
         x.run(1);
         c.due("21: one behind the other", x.get(0, 0) * 100 + x.get(0, 1) * 10 + x.get(0, 2), 232);
+        x.back(1);
+        c.due("22: three stores", x.get(0, 0) * 100 + x.get(0, 1) * 10 + x.get(0, 2), 123);
         x = doing(8, "[d]=s,d=[d]+[i],[i]=z");
         x.set(0, 0, 77);
         x.set(0, 1, 5);
@@ -124,6 +127,15 @@ public final class StepperTest {
         c.due("21: into memory", x.get(1, 77), 5);
         c.due("21: from memory, just written", x.get(0, 0), 11);
         c.due("21: memory at i", x.get(1, 3), 0);
+        x.back(1);
+        c.due("22: memory as it was", x.get(1, 77) * 10 + x.get(1, 3), 6);
+        x = doing(8, "[d]=i");
+        x.set(1, 0, 8);
+        x.run(1);
+        c.due("21: memory at 0", x.get(1, 0), 3);
+        x.back(1);
+        c.due("22: memory at 0", x.get(1, 0), 8);
+        c.due("22: and no register", x.get(0, 0), 0);
         x = doing(8, "z=s,d=z+z");
         x.set(0, 1, 128);
         x.run(1);
@@ -223,7 +235,8 @@ public final class StepperTest {
     private static void waits(Checks c) {
         String[][] wait = {{"d=0", "z=d"}, {"d=0", "d=d+1"}, {"d=0", "[d]=0"}, {"d=0", "t=[d]"}, {"d=0", "?d,t=0"}, {"d=0", "?!d,t=0"},
             {"z=0", "t=z"}, {"z=0", "?z,t=0"}, {"[d]=0", "t=[s]"}, {"[d]=0", "d=s-[s]"}, {"?d,d=0", "t=d"}, {"s=0,d=0", "t=d"},
-            {"d=0,s=0", "t=s"}, {"[s]=0,z=0", "t=1+z"}, {"d=0", "z=1,t=2,z=d"}};
+            {"d=0,s=0", "t=s"}, {"[s]=0,z=0", "t=1+z"}, {"d=0", "z=1,t=2,z=d"},
+            {"t=0", "d=t"}, {"s=0", "?s,d=0"}, {"t=0", "[t]=0"}};
         String[][] none = {{"d=0", "d=0"}, {"d=0", "t=s"}, {"z=0", "z=1"}, {"[d]=0", "[d]=1"}, {"d=0", "[s]=t"}, {"p=0+1", "d=p"},
             {"[s]=0", "t=d"}, {"z=0", "?s,z=1"}};
         for (String[] two : wait) {
@@ -236,6 +249,17 @@ public final class StepperTest {
         c.due("23: a register by its number", waitsOf("d=0", "t=s", 9, true), 800 + 10 + 8);
         c.due("23: another number", waitsOf("d=0", "t=d", 9, true), 10);
         c.due("23: once for two", waitsOf("d=0,s=0", "z=d+s", 3, false), 200 + 4 + 2);
+    }
+
+    private static void iNamesNoRegister(Checks c) {
+        OrdersTold x = new OrdersTold();
+        x.begin(8, 2, 10);
+        Checks.order(x, "a:00ddssttii:d=0,s=0:9");
+        x.put(0, 0b00_00_01_10_00);
+        x.put(1, 0b11_00_01_10_00);
+        Checks.order(x, "b:11ddssttii:t=[i],[i]=t:1");
+        x.run(2);
+        c.due("23: i names no register", x.so(2), 0);
     }
 
     private static OrdersTold waiting() {
@@ -318,6 +342,11 @@ public final class StepperTest {
         x.put(0, 63);
         x.run(1);
         c.due("22: the guess, too", x.so(3), 5);
+        x.put(63, 20);
+        x.run(1);
+        x.back(1);
+        x.put(63, 0);
+        c.due("22: the guess at 63, too", x.run(1) + x.so(3), 1 + 5);
         c.due("24: 10", x.flush(10), BAD);
         for (int far : FAR) {
             c.due("24: far", x.flush(far), BAD);

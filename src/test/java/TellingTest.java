@@ -143,6 +143,7 @@ public final class TellingTest {
             c.due("4: fault of '" + texts[i] + "'", Checks.order(x, texts[i]), -20 - places[i]);
             c.due("4: no order then", x.count(0), 0);
         }
+        c.due("4: s alone not as told", Checks.order(x, "a:00000sss:z=0:1"), -30);
         c.due("4: a good one is told", Checks.order(x, "abc:00000000:z=0:1"), 0);
         c.due("4: the name of another", Checks.order(x, "  abc:1111"), -22);
         c.due("4: the name of another alone", Checks.order(x, "abc"), -20);
@@ -287,6 +288,10 @@ public final class TellingTest {
         c.due("11: from itself", x.hole(200), 200);
         c.due("11: the last hole", x.hole(247), 247);
         c.due("11: none behind", x.hole(248), NONE);
+        Checks.order(x, "g:10000000:z=0:1");
+        c.due("11: one further", x.hole(0), 129);
+        c.due("11: from the order", x.hole(128), 129);
+        x.unorder();
         Checks.order(x, "c:10iiiiii:z=i:1");
         Checks.order(x, "d:110iiiii:z=i:1");
         Checks.order(x, "e:1110iiii:z=i:1");
