@@ -33,7 +33,6 @@ final class PlainTold {
     private int flush;
     private int variables;
     private Node sum;
-    private int sumLeaves;
     private final Object[] sheets = new Object[4];
 
     PlainTold() {
@@ -584,8 +583,7 @@ final class PlainTold {
             return -20 - wrong;
         }
         sum = treeOf(text.replace(" ", ""));
-        sumLeaves = count;
-        return sumLeaves;
+        return count;
     }
 
     /** The latest sign outside of all ( ) binds last. */
