@@ -44,6 +44,19 @@ final class Checks {
         return x.order();
     }
 
+    /** An object of some W, K, B with orders told; throws, if one is refused. */
+    static OrdersTold told(int w, int k, int b, String... orders) {
+        OrdersTold x = new OrdersTold();
+        x.begin(w, k, b);
+        for (String text : orders) {
+            int number = order(x, text);
+            if (number < 0) {
+                throw new IllegalStateException("order answered " + number + " for " + text);
+            }
+        }
+        return x;
+    }
+
     static int line(OrdersTold x, String text) {
         type(x, text);
         return x.line();

@@ -82,7 +82,7 @@ public final class MakerTest {
 
     private static void undoEachOther(Checks c) {
         OrdersTold x = Checks.ten();
-        for (int bits = 0; bits < 256; bits += 5) {
+        for (int bits = 0; bits < 256; bits += 9) {
             c.due("25, 26: there and back", Checks.line(x, Checks.text(x, bits)), bits);
         }
         x = new OrdersTold();

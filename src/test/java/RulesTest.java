@@ -104,7 +104,11 @@ public final class RulesTest {
 
     private static void forbidden(Checks c, String code) {
         none(c, "rule 6", found(code, "\\b(throw|throws|try|catch|synchronized|assert)\\b"));
-        none(c, "rule 2", found(code, "->|::"));
+        none(c, "rule 2", found(code, "->|::|new \\w+\\([^)]*\\)\\s*\\{|\\n {8,}(final |abstract |static )*class "));
+        none(c, "rule 3", found(code, "\\b(?!int\\b)\\w+\\[\\]\\[\\]|\\[\\]\\[\\]\\[\\]"));
+        none(c, "rule 6", found(code, "\\b(equals|hashCode|toString)\\("));
+        none(c, "rule 4", found(code, "Exact\\("));
+        none(c, "rule 9", found(code, "while \\(true|for \\([^;)]*;\\s*;"));
         none(c, "rule 4", found(code, "import (?!java\\.util\\.Arrays;)[^;]*;"));
         none(c, "rule 4", found(code, "\\b(Math|Arrays|Integer|System)\\.(?!min|max|bitCount|fill|arraycopy)\\w+"));
         none(c, "rule 4", found(code, "\\b(String|Object|Random|Thread|Class)\\b"));
@@ -131,7 +135,10 @@ public final class RulesTest {
             }
             int fields = 0;
             for (Field field : one.getDeclaredFields()) {
-                fields += Modifier.isStatic(field.getModifiers()) ? 0 : 1;
+                boolean isStatic = Modifier.isStatic(field.getModifiers());
+                fields += isStatic ? 0 : 1;
+                boolean isConstant = Modifier.isFinal(field.getModifiers()) && field.getType() == int.class;
+                c.due("rule 5: " + field, !isStatic || isConstant ? 1 : 0, 1);
             }
             c.due("rule 11: fields of " + one, fields <= 20 ? 1 : 0, 1);
         }

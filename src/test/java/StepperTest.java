@@ -360,15 +360,15 @@ public final class StepperTest {
         for (int i = 0; i < lines.length; i++) {
             x.put(i, Checks.line(x, lines[i]));
         }
-        int[][] seen = new int[60][];
-        for (int n = 0; n < 60; n++) {
+        int[][] seen = new int[21][];
+        for (int n = 0; n < 21; n++) {
             seen[n] = allOf(x);
-            if (n < 59) {
+            if (n < 20) {
                 x.run(1);
             }
         }
-        c.due("22: 59 can be", x.back(60), NOT);
-        for (int n = 58; n >= 0; n--) {
+        c.due("22: 20 can be", x.back(21), NOT);
+        for (int n = 19; n >= 0; n--) {
             c.due("22: how many are left", x.back(1), n);
             int[] now = allOf(x);
             for (int i = 0; i < now.length; i++) {
