@@ -3,6 +3,8 @@ final class EdgesOfMaker {
     private static final int BAD = OrdersTold.BAD, NOT = OrdersTold.NOT, FULL = OrdersTold.FULL, NONE = OrdersTold.NONE;
     private static final int[] FAR = {Integer.MIN_VALUE, -1, Integer.MAX_VALUE};
 
+    private static final String TWENTY = "1+1+1+1+1+1+1+1+1+1+1+1+1+1+1+1+1+1+1+1";
+
     private EdgesOfMaker() {
     }
 
@@ -115,14 +117,14 @@ final class EdgesOfMaker {
 
         d.says("ONTO d=d SIGN s");
         d.due("it is one", price(with("d=d-s:3", "d=s:1"), "a-b"), 4);
-        String[] noOnto = {"d=s-d:3", "d=d-t:3", "s=s-d:3", "d=d-[s]:3", "d=d-d:3"};
+        String[] noOnto = {"d=s-d:3", "d=d-t:3", "s=s-d:3", "d=d-[s]:3", "d=d-d:3", "d=z-s:3", "d=7-s:3"};
         for (String one : noOnto) {
             d.due(one, price(with(one, "d=s:1"), "a-b"), NONE);
         }
 
         d.says("UPON d=d SIGN i");
         d.due("it is one", price(with("d=d-i:3", "d=s:1"), "a-1"), 4);
-        String[] noUpon = {"d=i-d:3", "d=d-1:3", "s=s-i:3", "d=d-[i]:3"};
+        String[] noUpon = {"d=i-d:3", "d=d-1:3", "s=s-i:3", "d=d-[i]:3", "d=z-i:3", "d=7-i:3"};
         for (String one : noUpon) {
             d.due(one, price(with(one, "d=s:1", "d=i:1"), "a-1"), NONE);
         }
@@ -263,6 +265,8 @@ final class EdgesOfMaker {
         d.due("the latest", price(x, "a+b"), 5);
         d.due("the latest", price(x, "3"), 3);
         d.due("again", x.price(), 3);
+        d.due("20 numbers", price(x, TWENTY), 20 * 3 + 19 * 5);
+        Checks.sum(x, "3");
         Checks.order(x, "x:111111ddii00:d=i:1");
         d.due("with the ORDERS as they are", x.price(), 1);
         d.says("NOT: none is read");
@@ -297,6 +301,14 @@ final class EdgesOfMaker {
             d.due("the same", x.code(20 + i), x.code(i));
         }
         d.due("the last places", x.make(61), 3);
+        d.due("20 numbers", Checks.sum(x, TWENTY) + x.make(25), 20 + 39);
+        d.due("20 numbers, a place too few", x.make(26), FULL);
+        OrdersTold y = Checks.told(8, 3, 12, "m:000000dddsss:d=s:1", "l:0001000dddii:d=i:1", "o:001000dddsss:d=d&s:1",
+                "t:111dddsssttt:d=s+t:1");
+        y.variables(2);
+        isMade(d, y, "a+b+a", "t 2,0,1; t 2,2,0");
+        isMade(d, y, "1&(2&(b&a))", "l 2,1; l 3,2; m 4,1; o 4,0; o 3,4; o 2,3");
+        Checks.sum(x, "1+2");
         d.says("BAD");
         d.due("64", x.make(64), BAD);
         for (int far : FAR) {
@@ -308,9 +320,10 @@ final class EdgesOfMaker {
         d.says("NOT");
         d.due("none is read", new OrdersTold().make(0), NOT);
         d.says("NONE");
+        x.put(63, 5);
         d.due("it can't be covered", x.make(0), NONE);
         d.due("ahead of FULL", x.make(63), NONE);
-        d.due("nothing is put", x.code(63) == x.code(22) ? 1 : 0, 1);
+        d.due("nothing is put", x.code(63), 5);
 
         d.says("FULL: a REGISTER, a place that is not there (nothing is put)");
         Checks.sum(x, "1+2");

@@ -37,6 +37,8 @@ final class EdgesOfNarrow {
         d.due("4 is 0", like("d=4", "d=0"), 1);
         d.due("3 is not", like("d=3", "d=0"), 0);
         d.due("255 is 3", like("d=255", "d=3"), 1);
+        d.due("a WORD may be 3", like("z=2<s", "z=0"), 0);
+        d.due("but not more", like("z=3<s", "z=0"), 1);
         d.due("sums go round", like("d=s+4", "d=s"), 1);
         d.due("below 0, too", like("d=s-1", "d=s+3"), 1);
         d.due("and are held so against others", like("z=4<s", "z=0<s"), 1);
@@ -48,7 +50,8 @@ final class EdgesOfNarrow {
         d.due("K does not matter", Checks.told(8, 3, 12, "a:000dddsssttt:d=s-t,t=d:1").reads(0), 6);
 
         d.says("i one of 0 .. 3");
-        d.due("3 is one", like("d=i", "d=i&1"), 0);
+        d.due("3 is one", like("z=2<i", "z=0"), 0);
+        d.due("2 is one", like("d=i", "d=i&1"), 0);
         d.due("4 is none", like("d=i", "d=i&3"), 1);
         d.due("also where i has a single bit", Checks.told(8, 1, 8, "a:000000di:d=i:1", "b:111111di:d=i&1:1").like(0, 1), 0);
         d.due("also where i has eight", Checks.told(8, 1, 12, "a:000diiiiiiii:d=i:1", "b:111diiiiiiii:d=i&3:1").like(0, 1), 1);
@@ -56,12 +59,18 @@ final class EdgesOfNarrow {
         d.says("MEMORY has 4 WORDS");
         d.due("a last", like("[s]=1", "[s]=1,[i]=[i]"), 1);
         d.due("each may be another", like("[s]=0", "[t]=0"), 0);
+        d.due("the last is written", writesOf("d=3,[d]=s"), 33);
+        d.due("the last is read", readsOf("d=3,d=[d]"), 32);
+        d.due("the last may be another", like("d=3,[d]=1", "d=3,[d]=2"), 0);
+        d.due("the last is not i", like("d=3,[d]=0,s=i", "d=3,[d]=0,s=0"), 0);
+        d.due("a WORD of it may be 3", like("z=2<[i]", "z=0"), 0);
         d.due("round behind it", like("d=3,[d]=1", "d=7,[d]=1"), 1);
 
         d.says("Z, and P is 0 .. 3 (as a TARGET modulo 4; nothing is added to it)");
         d.due("4 is 0", like("p=4", "p=0"), 1);
         d.due("64 is 0", like("p=64", "p=0"), 1);
         d.due("3 is not", like("p=3", "p=0"), 0);
+        d.due("P may be 3", like("z=2<p", "z=0"), 0);
         d.due("one more than 3 is 0", like("p=p+1", "p=p-3"), 1);
         d.due("nothing is added", writesOf("d=0"), 1);
         d.due("it stays", writesOf("p=p"), 0);
@@ -82,6 +91,7 @@ final class EdgesOfNarrow {
         d.due("one that shows for some states alone", readsOf("d=s&t"), 6);
         d.due("i is no state", readsOf("d=i"), 0);
         d.due("but may tell which WORD", readsOf("d=[i]"), 32);
+        d.due("nor MEMORY", readsOf("d=[i]&0,s=i"), 0);
         d.due("a GUARD", readsOf("?s,d=0"), 2);
         d.due("d for a GUARD that changes d alone to what it is", readsOf("?!d,d=0"), 0);
         d.due("where in MEMORY", readsOf("[s]=0"), 2);
@@ -117,6 +127,7 @@ final class EdgesOfNarrow {
         d.due("Z", writesOf("z=2"), 8);
         d.due("P", writesOf("p=3"), 16);
         d.due("P by 4 is none", writesOf("p=p+4"), 0);
+        d.due("each in a state of its own", writesOf("d=d+z,z=z^1,s=s+z"), 11);
         d.due("what a GUARD never lets", writesOf("z=0,p=p,d=d"), 8);
 
         d.says("Told are bits: 1 d, 2 s, 4 t, 8 Z, 16 P, 32 MEMORY (some WORD of it)");
@@ -139,6 +150,11 @@ final class EdgesOfNarrow {
         d.due("turned, but not alike", like("d=s-t", "d=t-s"), 0);
         d.due("but for one state", like("z=s", "z=s&1"), 0);
         d.due("but for one state of all", like("z=s&t", "z=s|t"), 0);
+        d.due("but for 3 in all of d, s, t", like("d=d&s,d=d&t,z=2<d", "d=d&s,d=d&t,z=0"), 0);
+        d.due("but for 3 in d, s and i", like("d=d&s,d=d&i,z=2<d", "d=d&s,d=d&i,z=0"), 0);
+        d.due("but for 3 in two WORDS of MEMORY and P", like("d=[s]&[t],d=d&p,z=2<d", "d=[s]&[t],d=d&p,z=0"), 0);
+        d.due("but for states with t below s", like("d=s,z=t<d", "d=s,z=0"), 0);
+        d.due("but for 0 in d, s, t", like("d=d|s,d=d|t,z=d", "d=d|s,d=d|t,z=1"), 0);
         d.due("but for one i", like("d=i", "d=i&2"), 0);
         d.due("but for P", like("d=s", "d=s,p=0"), 0);
         d.due("but for a WORD of MEMORY", like("d=s", "d=s,[t]=0"), 0);

@@ -249,6 +249,11 @@ final class EdgesOfPairs {
         x.put(3, 2);
         x.put(4, 63);
         d.due("not by TICKS, not by ACTS", x.best(5), 20 + 2);
+        d.due("b is 0", holding(0b101, 0b10).best(64), 20);
+        OrdersTold least = Checks.told(8, 1, 6, "a:111100:z=0:1");
+        least.put(0, 60);
+        least.put(1, 60);
+        d.due("both are 0, their ROOM is 0", least.best(2), 0);
         OrdersTold last = twenty();
         last.put(0, 19);
         last.put(1, 19);
@@ -293,6 +298,9 @@ final class EdgesOfPairs {
         d.due("another", x.join(1, 0), 6);
         d.due("it goes as others do", x.unorder(), 6);
         d.due("JOINED with one JOINED", Checks.join(x, "w", 5, 0), 6);
+        x = Checks.told(8, 1, 6, "a:111100:z=0:1");
+        d.due("in a ROOM at 0", Checks.join(x, "b", 0, 0), 1);
+        d.due("it is there", x.look(0), 1);
 
         d.says("BAD (THE TAPE stays)");
         x = five();

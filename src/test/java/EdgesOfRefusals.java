@@ -257,5 +257,29 @@ final class EdgesOfRefusals {
                 d.due(one.call + ": seen " + i, now.get(i), untouched.get(i));
             }
         }
+        refusedOrders(d);
+    }
+
+    /** Nothing of a text that is refused is in the order behind it. */
+    private static void refusedOrders(Sentences d) {
+        String[] refused = {"a:11ssttii:?s,[t]=s,z=p,t=i:9x", "a:11ssttii:?!t,[i]=[s]+[t]:0", "a:11iiiiii:p=i:0", "a:ttttttt", "b:1111111s:z=0:1",
+            "abc"};
+        for (String text : refused) {
+            OrdersTold x = new OrdersTold();
+            d.due("'" + text + "' is refused", Checks.order(x, text) <= -20 ? 1 : 0, 1);
+            d.due("none is told", x.count(0), 0);
+            d.due("behind it", Checks.order(x, "b:0000ddii:d=i:2"), 0);
+            int[] due = {2, 1, 0, 9, 2, 0};
+            for (int what = 0; what < due.length; what++) {
+                d.due("behind '" + text + "', about " + what, x.about(0, what), due[what]);
+            }
+            Checks.sum(x, "3");
+            x.run(3);
+            int[] got = {x.reads(0), x.writes(0), x.holes(), x.price(), x.so(1), x.so(2), x.room(0, 0), Checks.line(x, "b 1,2")};
+            int[] want = {0, 1, 240, 2, 6, 0, 16, 6};
+            for (int i = 0; i < want.length; i++) {
+                d.due("behind '" + text + "', " + i, got[i], want[i]);
+            }
+        }
     }
 }

@@ -134,6 +134,22 @@ final class EdgesOfSheets {
         lay(x, 0, 2, 4, 0, 4, 4, 0, 4);
         d.due("behind a HOLE at once, though nothing changes", x.log(0, 2, 0, 2), 1);
 
+        x = Checks.told(8, 2, 8, "l:00ddss00:d=[s]:1", "g:01dd0000:?z,d=9:1", "m:10ddss00:[d]=7:1");
+        x.set(1, 0, 5);
+        x.set(2, 0, 1);
+        x.set(3, 0, 63);
+        x.put(63, 0b00_11_00_00);
+        x.put(0, 0b10_00_00_00);
+        x.put(1, 0b01_10_0000);
+        x.put(2, 0b00_01_00_00);
+        lay(x, 0, 2, 63, 3, 0, 0, 3, 5, 1, 2, 0, 2, 2, 9, 3, 1, 7);
+        d.due("with MEMORY, Z as they are, and as the STEPS make them", x.log(0, 2, 0, 5), 5);
+        d.due("again", x.log(0, 2, 0, 5), 5);
+        d.due("MEMORY is as ahead", x.get(1, 0), 5);
+
+        x = counting();
+        x.put(0, 255);
+        lay(x, 0, 2, 0, 0, 0);
         d.says("n: all are");
         d.due("none of none", x.log(0, 2, 0, 0), 0);
         d.due("one of one", x.log(0, 2, 0, 1), 1);

@@ -214,6 +214,7 @@ final class EdgesOfSteps {
         for (String[] two : registers) {
             d.due(two[0], both(two[0] + "=0", 4, "z=" + two[0]), waited);
             d.due("another", both(two[0] + "=0", 4, "z=" + two[1]), none);
+            d.due("the first of three", both(two[0] + "=0,z=0,[d]=0", 4, "z=" + two[0]), waited);
             d.due("the last of three", both("z=0,p=1," + two[0] + "=0", 4, "z=" + two[0]), waited);
         }
         OrdersTold x = Checks.told(8, 2, 8, "a:0000ddss:d=1:4", "b:1111ddss:z=s:1");
@@ -225,20 +226,28 @@ final class EdgesOfSteps {
         d.due("d 3 of one is s 3 of the other", x.so(2), 3);
         x.run(2);
         d.due("d 3 is not s 0", x.so(2), 3);
+        d.due("REGISTER 7 is not Z", waitsForTheLast("s=z"), 0);
+        d.due("REGISTER 7 is not MEMORY", waitsForTheLast("s=[t]"), 0);
+        d.due("REGISTER 7 is itself", waitsForTheLast("s=d"), 3);
 
         d.says("MEMORY as a whole");
         d.due("[d], [s] are one", both("[d]=0", 4, "z=[s]"), waited);
         d.due("it is no REGISTER", both("[d]=0", 4, "z=d"), none);
+        d.due("nor Z", both("[d]=0", 4, "s=z"), none);
+        d.due("nor a number", both("[d]=0", 4, "s=0"), none);
+        d.due("ahead of other TARGETS", both("[d]=0,s=0", 4, "z=[t]"), waited);
 
         d.says("Z; whether the GUARD let it or not)");
         d.due("Z", both("z=0", 4, "d=z"), waited);
+        d.due("it is no REGISTER", both("z=0", 4, "s=d"), none);
+        d.due("nor MEMORY", both("z=0", 4, "d=[s]"), none);
         d.due("the GUARD let it not", both("?d,s=0", 4, "z=s"), waited);
         d.due("the GUARD let it", both("?!d,s=0", 4, "z=s"), waited);
         d.due("this one's GUARD lets it not", both("s=0", 4, "?d,z=s"), waited);
         d.due("P is none of them", both("p=p", 4, "d=p"), none);
 
         d.says("is NAMED by this ORDER (a REGISTER as an OPERAND, in [ ] anywhere, in the GUARD");
-        String[] naming = {"z=s", "z=s+1", "z=1-s", "[s]=0", "z=[s]", "z=1|[s]", "?s,z=0", "?!s,z=0", "z=0,z=0,z=s", "s=s"};
+        String[] naming = {"z=s", "z=s+1", "z=1-s", "[s]=0", "z=[s]", "z=1|[s]", "?s,z=0", "?!s,z=0", "z=0,z=0,z=s", "s=s", "z=s+t", "z=d-s"};
         for (String does : naming) {
             d.due(does, both("s=0", 4, does), waited);
         }
@@ -246,6 +255,10 @@ final class EdgesOfSteps {
         for (String does : not) {
             d.due(does, both("s=0", 4, does), none);
         }
+        d.due("i is no REGISTER", waitsBesideI("d=0,s=0,t=0", "[i]=i"), 0);
+        d.due("nor in [ ]", waitsBesideI("d=0,s=0,t=0", "p=p,[i]=[i]"), 0);
+        d.due("nor Z", waitsBesideI("z=0", "d=[i]+i"), 0);
+        d.due("one beside it is", waitsBesideI("d=0,s=0,t=0", "[i]=t"), 3);
 
         d.says("MEMORY as an OPERAND");
         String[] reading = {"z=[d]", "z=1+[d]", "z=[t]-1"};
@@ -261,6 +274,24 @@ final class EdgesOfSteps {
             d.due(does, both("z=0", 4, does), waited);
         }
         d.due("not as a TARGET", both("z=0", 4, "z=1"), none);
+    }
+
+    /** WAITS of an order with d 7 behind one that has REGISTER 7 as its target. */
+    private static int waitsForTheLast(String does) {
+        OrdersTold x = Checks.told(8, 3, 12, "a:000dddsssttt:d=0:4", "b:111dddsssttt:" + does + ":1");
+        x.put(0, 0b000_111_000_001);
+        x.put(1, 0b111_111_000_001);
+        x.run(2);
+        return x.so(2);
+    }
+
+    /** WAITS of b behind a, both of d 0, s 1, t 2, i 3. */
+    private static int waitsBesideI(String a, String b) {
+        OrdersTold x = Checks.told(8, 2, 12, "a:0000ddssttii:" + a + ":4", "b:1111ddssttii:" + b + ":1");
+        x.put(0, 0b0000_00_01_10_11);
+        x.put(1, 0b1111_00_01_10_11);
+        x.run(2);
+        return x.so(2);
     }
 
     private static OrdersTold jumping() {
@@ -323,7 +354,7 @@ final class EdgesOfSteps {
     private static void backInThePipe(Sentences d) {
         d.says("BACK all this is as it was, too");
         OrdersTold x = Checks.told(8, 2, 8, "a:00dd0000:d=d+1:5", "j:11iiiiii:p=i:1");
-        x.put(2, 0b11_000000);
+        x.put(3, 0b11_000000);
         int[][] seen = new int[9][];
         for (int n = 0; n < 9; n++) {
             seen[n] = new int[] {x.so(0), x.so(1), x.so(2), x.so(3), x.get(0, 0), x.get(3, 0)};
@@ -337,17 +368,17 @@ final class EdgesOfSteps {
                 d.due(what[i] + " ahead of STEP " + n, now[i], seen[n][i]);
             }
         }
-        x.run(3);
+        x.run(4);
         d.due("the guess, too: wrong again", x.so(3), 1);
-        x.run(3);
-        x.back(3);
-        x.run(3);
+        x.run(4);
+        x.back(4);
+        x.run(4);
         d.due("the guess, too: right again", x.so(3), 1);
         x.flush(9);
-        x.back(6);
+        x.back(8);
         d.due("TICKS by another F", x.so(1), 0);
-        x.run(3);
-        d.due("with the new F then", x.so(1), 5 + 5 + 4 + 1 + 9);
+        x.run(4);
+        d.due("with the new F then", x.so(1), 5 + 5 + 4 + 5 + 4 + 1 + 9);
     }
 
     private static void codePromises(Sentences d) {
@@ -509,6 +540,7 @@ final class EdgesOfSteps {
         d.due("100 are", x.get(0, 0), 100);
         x.run(100);
         d.due("99", x.back(99), 1);
+        allStores(d);
         d.says("BAD");
         d.due("0", x.back(0), BAD);
         d.due("101", x.back(101), BAD);
@@ -523,6 +555,45 @@ final class EdgesOfSteps {
         d.due("1 of 1", x.back(1), 0);
         d.due("1 of none", x.back(1), NOT);
         d.due("at first", new OrdersTold().back(1), NOT);
+    }
+
+    private static int[] storesOf(OrdersTold x) {
+        int[] stores = new int[14];
+        for (int i = 0; i < 8; i++) {
+            stores[i] = x.get(0, i);
+        }
+        for (int i = 0; i < 4; i++) {
+            stores[8 + i] = x.get(1, i);
+        }
+        stores[12] = x.get(2, 0);
+        stores[13] = x.get(3, 0);
+        return stores;
+    }
+
+    /** Each order changes some store twice or three stores at once. */
+    private static void allStores(Sentences d) {
+        OrdersTold x = Checks.told(2, 3, 12, "a:000dddsss000:[d]=s,s=d,d=0:1", "b:001dddsss000:[s]=2,[s]=1,z=z^1:1",
+                "c:010dddsss000:d=1,d=2,s=z:1", "e:0110000000ii:z=z^1,p=i,[i]=3:1");
+        String[] lines = {"a 7,1", "b 6,4", "c 5,7", "e 0"};
+        for (int place = 0; place < lines.length; place++) {
+            x.put(place, Checks.line(x, lines[place]));
+        }
+        for (int i = 0; i < 8; i++) {
+            x.set(0, i, 3 - i % 4);
+            x.set(1, i % 4, 1 + i % 3);
+        }
+        int[][] seen = new int[9][];
+        for (int n = 0; n < 9; n++) {
+            seen[n] = storesOf(x);
+            x.run(1);
+        }
+        for (int n = 8; n >= 0; n--) {
+            d.due("so many left", x.back(1), n);
+            int[] now = storesOf(x);
+            for (int i = 0; i < now.length; i++) {
+                d.due("store " + i + " ahead of STEP " + n, now[i], seen[n][i]);
+            }
+        }
     }
 
     private static void soPromise(Sentences d) {

@@ -229,6 +229,12 @@ final class EdgesOfTelling {
         d.due("d, its highest bit", x.field(0b10010001, 0), 2);
         d.due("d, its lowest bit", x.field(0b10001001, 0), 1);
         d.due("all of a FIELD", tell("a:dsitdsit:d=0:1"), 0);
+        for (int b = 6; b <= 12; b++) {
+            OrdersTold y = Checks.told(8, 2, b, "a:i" + "0".repeat(b - 2) + "i:z=i:1");
+            d.due("the highest bit of " + b, y.field(1 << b - 1, 3), 2);
+            d.due("its LINE", Checks.line(y, "a 2"), 1 << b - 1);
+            d.due("the lowest bit of " + b, y.field(1, 3), 1);
+        }
     }
 
     private static void fields(Sentences d) {
